@@ -599,6 +599,7 @@ public final class SheetWar {
         private int moves;
         private int seaMoves;
         private int headOn;
+        // By area: the MOVES to it, the SUPPORTS for its unit that aren't void, the fleets that carry its unit's MOVE.
         private final int[] movesTo = new int[AREAS];
         private final int[] backers = new int[AREAS];
         private final int[] carriers = new int[AREAS];

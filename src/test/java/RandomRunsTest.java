@@ -8,7 +8,7 @@ import java.util.function.LongSupplier;
  * The runs keep away from what the document leaves open, and from more than 512 calls.
  */
 public final class RandomRunsTest {
-    private static final int RUNS = 4000;
+    private static final int RUNS = 8000;
     private static final int MOST_CALLS = 512;
     private static final long ARGUMENT = Long.MIN_VALUE;
     private static final long STATE = Long.MIN_VALUE + 1;
@@ -82,7 +82,10 @@ public final class RandomRunsTest {
     }
 
     private static String name(long answer) {
-        return answer == ARGUMENT ? "IllegalArgumentException" : answer == STATE ? "IllegalStateException" : "" + answer;
+        if (answer == ARGUMENT) {
+            return "IllegalArgumentException";
+        }
+        return answer == STATE ? "IllegalStateException" : Long.toString(answer);
     }
 
     private static long number(boolean b) {
@@ -124,7 +127,7 @@ public final class RandomRunsTest {
         int resolves = 0;
         // Not more than eight resolves: how many can be taken back after a mixture is not for this test.
         while (same && resolves < 8 && calls < MOST_CALLS - 150) {
-            if (chance(0.15)) {
+            if (chance(0.1)) {
                 both("undo()", () -> number(war.undo()), () -> number(plain.undo()));
                 ask();
             }
@@ -134,6 +137,11 @@ public final class RandomRunsTest {
             both("resolve()", war::resolve, plain::resolve);
             resolves++;
             askAll();
+            // The crowd of the beginning is worth more than one look.
+            if (chance(0.3)) {
+                both("undo()", () -> number(war.undo()), () -> number(plain.undo()));
+                continue;
+            }
             if (plain.phase() == 2) {
                 retreatAll();
             }
@@ -146,9 +154,9 @@ public final class RandomRunsTest {
     private void setUp() {
         double seas = new double[] {0, 0.25, 0.4, 0.6}[pick(4)];
         double density = new double[] {0.25, 0.4, 0.6, 0.9}[pick(4)];
-        double crowd = new double[] {0.4, 0.7, 1}[pick(3)];
+        double crowd = new double[] {0.5, 0.8, 1}[pick(3)];
         int players = 1 + pick(4);
-        int wanted = chance(0.1) ? pick(4) : 3 + pick(10);
+        int wanted = chance(0.1) ? pick(4) : 4 + pick(9);
         for (int i = 0; i < wanted; i++) {
             int kind = chance(seas) ? 1 : 0;
             boolean center = kind == 0 && chance(0.5);
@@ -187,7 +195,9 @@ public final class RandomRunsTest {
     }
 
     private void border(int a, int b) {
-        if (both("border(" + a + ", " + b + ")", () -> number(war.border(a, b)), () -> number(plain.border(a, b))) == 1) {
+        long answer = both("border(" + a + ", " + b + ")", () -> number(war.border(a, b)),
+                () -> number(plain.border(a, b)));
+        if (answer == 1) {
             joined[a][b] = true;
             joined[b][a] = true;
         }
@@ -213,16 +223,20 @@ public final class RandomRunsTest {
             return;
         }
         List<int[]> moves = new ArrayList<>();
-        double bustle = new double[] {0.4, 0.6, 0.9}[pick(3)];
+        double bustle = new double[] {0.3, 0.5, 0.9}[pick(3)];
+        int[] wanted = {someArea(), someArea()};
         for (int a = 0; a < size; a++) {
-            if (plain.at(a) >= 0 && chance(bustle)) {
-                int to = likelyGoal(a);
-                if (order(plain.at(a) / 2, a, 1, to, pick(size)) == 0) {
+            if (plain.at(a) >= 0) {
+                int to = chance(bustle) ? likelyGoal(a, wanted) : -1;
+                // Orders that undo brought back are written over.
+                if (to < 0) {
+                    order(plain.at(a) / 2, a, 0, 0, 0);
+                } else if (order(plain.at(a) / 2, a, 1, to, pick(size)) == 0) {
                     moves.add(new int[] {a, to});
                 }
             }
         }
-        int knots = chance(0.5) ? 1 + pick(2) : 0;
+        int knots = chance(0.4) ? 1 + pick(2) : 0;
         for (int i = 0; i < 60 && knots > 0 && calls < MOST_CALLS - 130; i++) {
             if (hangOnItself(moves)) {
                 knots--;
@@ -277,36 +291,48 @@ public final class RandomRunsTest {
         return -1;
     }
 
-    /** Mostly a place to which the unit can have a MOVE, and rather one where somebody is. */
-    private int likelyGoal(int a) {
-        boolean overSea = plain.at(a) % 2 == 0 && chance(0.3);
+    private boolean canGo(int a, int to) {
+        return joined[a][to] && (isSea[a] || isSea[to]) == (plain.at(a) % 2 == 1);
+    }
+
+    /** Mostly a place to which the unit can have a MOVE, and rather a wanted one, or one where somebody is. */
+    private int likelyGoal(int a, int[] wanted) {
+        boolean overSea = plain.at(a) % 2 == 0 && chance(0.4);
         for (int tries = 0; tries < 30; tries++) {
-            int to = someArea();
-            boolean wet = isSea[a] || isSea[to];
-            boolean fits = overSea ? !wet : joined[a][to] && wet == (plain.at(a) % 2 == 1);
-            if (fits && to != a && (plain.at(to) >= 0 || chance(0.3))) {
+            int to = tries < 2 && chance(0.7) ? wanted[tries] : someArea();
+            boolean fits = canGo(a, to) || (overSea && !isSea[to]);
+            if (fits && to != a && (tries < 2 || plain.at(to) >= 0 || chance(0.3))) {
                 return to;
             }
         }
-        return someArea();
+        return chance(0.1) ? someArea() : -1;
     }
 
     /** A move that is there gets help more often than chance would bring it. */
     private void helpSomebody(int a, List<int[]> moves) {
         int player = plain.at(a) / 2;
-        for (int tries = 0; tries < 2; tries++) {
-            int kind = chance(0.5) ? 2 : 3;
-            int[] move = moves.isEmpty() || chance(0.3) ? null : moves.get(pick(moves.size()));
+        if (chance(0.05)) {
+            order(player, a, 2 + pick(2), someArea(), someArea());
+            return;
+        }
+        for (int tries = 0; tries < 12; tries++) {
+            int[] move = moves.isEmpty() || chance(0.25) ? null : moves.get(pick(moves.size()));
             int x = move == null ? someArea() : move[0];
-            int y = move == null ? (chance(0.5) ? x : someArea()) : move[1];
-            if (order(player, a, kind, x, y) == 0) {
+            int y = move == null ? x : move[1];
+            boolean overSea = plain.at(x) >= 0 && plain.at(x) % 2 == 0 && x != y && !canGo(x, y);
+            if (isSea[a] && overSea && chance(0.8)) {
+                order(player, a, 3, x, y);
+                return;
+            }
+            if (x != a && y != a && plain.at(x) >= 0 && canGo(a, y)) {
+                order(player, a, 2, x, y);
                 return;
             }
         }
     }
 
     private void ask() {
-        int a = chance(0.1) ? nearlyArea0() : pick(size + 2) - 1;
+        int a = chance(0.1) ? farNumber() : pick(size + 2) - 1;
         int what = pick(5) - 1;
         both("told(" + a + ", " + what + ")", () -> war.told(a, what), () -> plain.told(a, what));
         both("at(" + a + ")", () -> war.at(a), () -> plain.at(a));
@@ -323,7 +349,7 @@ public final class RandomRunsTest {
         both("turn()", war::turn, plain::turn);
     }
 
-    private int nearlyArea0() {
+    private int farNumber() {
         return chance(0.5) ? Integer.MIN_VALUE : Integer.MAX_VALUE;
     }
 

@@ -55,6 +55,9 @@ public final class RetreatTest {
     private static void contestedAreas() {
         displacedOne("two moves stopped one another", 7, "4:A2 5:A3", ", 4-3, 5-3").mayGo(1, "6");
         displacedOne("its own move was stopped", 7, "4:A2", ", 1-3, 4-3").mayGo(1, "5 6");
+        // As above, with the areas the other way round: 6 is displaced from 5, and 0 and 1 stop one another at 3.
+        land("from the first area", 7, "0:A2 1:A3 4:A0 5:A0 6:A1").orders("5-6, 4 s 5-6, 0-3, 1-3")
+                .settles(1, 2, 2, 0, 0, 1, 1, 4).aside("6:A1").mayGo(6, "2");
         displacedOne("three moves stopped one another", 7, "4:A2 5:A3", ", 1-3, 4-3, 5-3").mayGo(1, "6");
     }
 
@@ -94,6 +97,9 @@ public final class RetreatTest {
 
     private static void sameRetreat() {
         displacedTwo("two to one place").retreat(1, 6, 0).retreat(4, 6, 0).finish(1).stands("1:A0 2:A0 4:A0 5:A0");
+        land("two from the ends", 7, "0:A1 1:A0 2:A0 4:A0 5:A0 6:A2").orders("1-0, 2 s 1-0, 5-6, 4 s 5-6")
+                .settles(2, 4, 1, 1, 0, 1, 1, 4).retreat(0, 3, 0).retreat(6, 3, 0).finish(1)
+                .stands("0:A0 2:A0 4:A0 6:A0");
         displacedTwo("two to two places").retreat(1, 6, 0).retreat(4, 7, 0).finish(1)
                 .stands("1:A0 2:A0 4:A0 5:A0 6:A1 7:A2");
         displacedTwo("one thinks again").retreat(1, 6, 0).retreat(4, 6, 0).retreat(1, 8, 0).finish(1)

@@ -8,6 +8,7 @@ public final class SettlingTest {
         supportsForStaying();
         voidSupports();
         cutSupports();
+        supportsAndPathsThatAreOpenAtFirst();
         supportsThatAreNotCut();
         supportsFromFarther();
         ownUnits();
@@ -25,6 +26,8 @@ public final class SettlingTest {
         movesWithoutPath();
         paradox();
         paradoxOfAnOpenMove();
+        seaMovesFailBeforeTheLeast();
+        leftoversSettleOthers();
         attackersOfBothCarriers();
         ringsAndParadoxes();
         results();
@@ -96,6 +99,24 @@ public final class SettlingTest {
                 .orders("0-1, 2 s 0-1, 3-2, 4-3, 5 s 4-3").settles(1, 2, 1, 3, 4, 1, 1);
         land("a displaced supporter", 6, "0:A0 1:A1 2:A0 3:A1").orders("0-1, 2 s 0-1, 1-2, 3 s 1-2")
                 .settles(2, 1, 1, 4, 1, 0, 0).stands("1:A0 2:A1 3:A1");
+    }
+
+    /** What is open at first must not be taken for settled: the orders that it hangs on stand at greater areas. */
+    private static void supportsAndPathsThatAreOpenAtFirst() {
+        land("a supporter that will be displaced", 5, "0:A0 1:A1 2:A0 3:A1 4:A2")
+                .orders("0 s 2-1, 2-1, 1-0, 3 s 1-0, 4-1").settles(1, 4, 1, 2, 1, 2).stands("0:A1 2:A0 3:A1 4:A2");
+        land("a supporter that will be saved", 6, "0:A0 1:A1 2:A0 3:A1 4:A2 5:A0")
+                .orders("0 s 2-1, 2-1, 1-0, 3 s 1-0, 4-3, 5-3").settles(1, 1, 4, 1, 3, 2, 2);
+        String map = "0-4 1-2 2-4 2-3";
+        new Scene(CHECK, "a carrier that will be saved", "L L S S L", map, "0:A0 1:A1 2:F1 3:F2")
+                .orders("0-4, 1-4, 2 c 1-4, 3-2").settles(0, 2, 2, 1, 2, 0);
+        new Scene(CHECK, "a carrier that will be displaced", "L L S S L S", map + " 5-2 5-3",
+                "0:A0 1:A1 2:F1 3:F2 5:F2").orders("0-4, 1-4, 2 c 1-4, 3-2, 5 s 3-2").settles(2, 1, 2, 4, 1, 0, 1);
+        new Scene(CHECK, "a carrier, and one that leaves", "L L S S L L", map + " 4-5",
+                "0:A0 1:A1 2:F1 3:F2 4:A3").orders("0-4, 1-4, 2 c 1-4, 3-2, 4-5").settles(1, 2, 2, 1, 2, 1, 0);
+        new Scene(CHECK, "a carrier, and a beaten one head-on", "L L L L L S S S",
+                "0-1 0-2 1-2 3-0 4-5 5-0 5-6 5-7 6-7", "0:A0 1:A1 2:A0 3:A2 4:A3 5:F3 6:F2 7:F2")
+                .orders("0-1, 1-0, 2 s 0-1, 3-0, 4-0, 5 c 4-0, 6-5, 7 s 6-5").settles(3, 1, 4, 1, 1, 2, 4, 1, 1);
     }
 
     private static void supportsThatAreNotCut() {
@@ -196,6 +217,10 @@ public final class SettlingTest {
                 .stands("0:A3 1:A2 2:A0 3:A1");
         land("two rings", 6, "0:A0 1:A1 2:A2 3:A0 4:A1 5:A2").orders("0-1, 1-2, 2-0, 3-5, 5-4, 4-3")
                 .settles(6, 1, 1, 1, 1, 1, 1);
+        land("twelve", 12, "0:A0 1:A1 2:A2 3:A3 4:A0 5:A1 6:A2 7:A3 8:A0 9:A1 10:A2 11:A3")
+                .orders("0-1, 1-2, 2-3, 3-4, 4-5, 5-6, 6-7, 7-8, 8-9, 9-10, 10-11, 11-0")
+                .settles(12, 1, 1, 1, 1, 1, 1, 1, 1, 1, 1, 1, 1)
+                .stands("0:A3 1:A0 2:A1 3:A2 4:A3 5:A0 6:A1 7:A2 8:A3 9:A0 10:A1 11:A2");
         land("stopped from outside", 5, "0:A0 1:A1 2:A2 3:A3").orders("0-1, 1-2, 2-0, 3-1").settles(0, 2, 2, 2, 2, 0);
         land("supported against outside", 5, "0:A0 1:A1 2:A2 3:A3 4:A0").orders("0-1, 1-2, 2-0, 3-1, 4 s 0-1")
                 .settles(3, 1, 1, 1, 2, 1);
@@ -216,6 +241,8 @@ public final class SettlingTest {
                 .orders("0-1, 2 c 0-1").settles(1, 1, 0, 1).stands("1:A0 2:F1").isIn(1, 2);
         new Scene(CHECK, "over three", "L L S S S", "0-4 4-2 2-3 3-1", "0:A0 2:F1 3:F2 4:F0")
                 .orders("0-1, 2 c 0-1, 3 c 0-1, 4 c 0-1").settles(1, 1, 0, 1, 1, 1);
+        new Scene(CHECK, "over the first area", "S S S L L", "3-1 1-0 0-2 2-4", "0:F1 1:F2 2:F0 3:A0")
+                .orders("3-4, 0 c 3-4, 1 c 3-4, 2 c 3-4").settles(1, 1, 1, 1, 1, 0);
         new Scene(CHECK, "over all that there may be", "L S S S S S S S S S S L",
                 "0-10 10-1 1-9 9-2 2-8 8-3 3-7 7-4 4-6 6-5 5-11",
                 "0:A0 1:F0 2:F0 3:F0 4:F0 5:F0 6:F0 7:F0 8:F0 9:F0 10:F0")
@@ -294,6 +321,26 @@ public final class SettlingTest {
         // Behind it others wait; they hang on what is left over.
         new Scene(CHECK, "paradox with one behind", "L S S L L S", STRAIT + " 2-5", "0:A0 1:F0 2:F1 3:F1 4:A0 5:F2")
                 .orders("0-3, 1 c 0-3, 2-1, 3 s 2-1, 4 s 0-3, 5-2").settles(0, 2, 1, 2, 3, 1, 2);
+    }
+
+    private static void seaMovesFailBeforeTheLeast() {
+        // If the MOVE from 0 failed first, that from 2 would succeed.
+        new Scene(CHECK, "by sea first", "S S L L L", "0-1 1-2 1-3 3-4", "0:F1 1:F0 2:A0 3:F1 4:A0")
+                .orders("0-1, 1 c 2-3, 2-3, 3 s 0-1, 4 s 2-3").settles(0, 2, 1, 2, 3, 1);
+    }
+
+    private static void leftoversSettleOthers() {
+        // The MOVE from 0 is the least open one: it fails, so that the army from 7 comes and cuts the support for 2's
+        // staying, and 2 is displaced. Then the one from 1 has no path, and the support at 3 is given for nothing.
+        String areas = "S L S L S S S L L L";
+        String borders = "1-2 2-3 2-4 2-5 4-5 6-0 7-6 6-8 3-6 8-2 3-9";
+        String units = "0:F3 1:A0 2:F1 3:F3 4:F2 5:F2 6:F2 7:A0 8:F1";
+        String orders = "0-6, 1-3, 2 c 1-3, 3 s 0-6, 4-2, 5 s 4-2, 6 c 7-8, 7-8, 8 s 2";
+        new Scene(CHECK, "others behind the least", areas, borders, units).orders(orders)
+                .settles(1, 2, 2, 4, 1, 1, 1, 1, 2, 3, 0).aside("2:F1");
+        // The same with an open MOVE by sea before.
+        new Scene(CHECK, "others behind a MOVE by sea", areas, borders, units + " 9:A0").orders(orders + ", 9 s 1-3")
+                .settles(1, 2, 2, 4, 1, 1, 1, 1, 2, 3, 1).aside("2:F1");
     }
 
     private static void attackersOfBothCarriers() {
