@@ -536,6 +536,15 @@ final class PlainWar {
                 && !units.containsKey(a);
     }
 
+    boolean hasPlace(int player) {
+        for (int a = 0; a < areas.size(); a++) {
+            if (isPlace(player, a)) {
+                return true;
+            }
+        }
+        return false;
+    }
+
     int finish() {
         needState(phase == 2 || phase == 3);
         if (phase == 2) {
@@ -569,10 +578,7 @@ final class PlainWar {
             }
             for (int p = 0; p < 4; p++) {
                 int missing = count(p, 0) - count(p, 1);
-                builds |= missing < 0;
-                for (int a = 0; a < areas.size(); a++) {
-                    builds |= missing > 0 && isPlace(p, a);
-                }
+                builds |= missing < 0 || missing > 0 && hasPlace(p);
             }
         }
         if (builds) {

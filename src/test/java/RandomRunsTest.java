@@ -162,7 +162,7 @@ public final class RandomRunsTest {
             boolean center = kind == 0 && chance(0.5);
             int home = center && chance(0.7) ? pick(players) : -1;
             area(kind, center, home);
-            if (chance(0.05)) {
+            if (chance(0.05) && size < 12) {
                 area(pick(4) - 1, chance(0.5), pick(7) - 2);
             }
         }
@@ -182,7 +182,10 @@ public final class RandomRunsTest {
                 unit(a, pick(players), 0);
             }
         }
-        unit(pick(size + 2) - 1, nearlyPlayer(), pick(4) - 1);
+        if (size > 0) {
+            unit(someArea(), pick(4), pick(2));
+        }
+        unit(chance(0.5) ? -1 : size, nearlyPlayer(), pick(4) - 1);
     }
 
     private void area(int kind, boolean center, int home) {
@@ -401,6 +404,10 @@ public final class RandomRunsTest {
             int a = nearlyArea();
             int kind = pick(3);
             int player = plain.at(a) >= 0 && chance(0.6) ? plain.at(a) / 2 : nearlyPlayer();
+            if (kind < 2 && !plain.hasPlace(player) && plain.count(player, 0) > plain.count(player, 1)) {
+                // Whether it is no time or no place for them the document does not tell.
+                continue;
+            }
             both("build(" + player + ", " + a + ", " + kind + ")", () -> war.build(player, a, kind),
                     () -> plain.build(player, a, kind));
         }
@@ -415,9 +422,12 @@ public final class RandomRunsTest {
 
     /** A call that is not for this phase, with arguments that are fine. */
     private void callInWrongPhase() {
+        if (size < 2) {
+            return;
+        }
         int phase = plain.phase();
-        int a = size == 0 ? 0 : someArea();
-        int b = size < 2 ? a : (a + 1) % size;
+        int a = someArea();
+        int b = (a + 1) % size;
         switch (pick(8)) {
             case 0:
                 if (phase != 0) {
