@@ -32,6 +32,10 @@ final class Check {
         refuses(call, run, IllegalStateException.class);
     }
 
+    void refusesNothing(String call, Runnable run) {
+        refuses(call, run, null);
+    }
+
     private void refuses(String call, Runnable run, Class<?> want) {
         asked++;
         Class<?> got = null;
@@ -42,9 +46,12 @@ final class Check {
         }
         if (got != want) {
             wrong++;
-            String what = got == null ? "nothing" : got.getSimpleName();
-            System.out.println(test + ": " + call + " throws " + what + ", due is " + want.getSimpleName());
+            System.out.println(test + ": " + call + " throws " + name(got) + ", due is " + name(want));
         }
+    }
+
+    private static String name(Class<?> thrown) {
+        return thrown == null ? "nothing" : thrown.getSimpleName();
     }
 
     void end() {

@@ -58,6 +58,8 @@ public final class RetreatTest {
         // As above, with the areas the other way round: 6 is displaced from 5, and 0 and 1 stop one another at 3.
         land("from the first area", 7, "0:A2 1:A3 4:A0 5:A0 6:A1").orders("5-6, 4 s 5-6, 0-3, 1-3")
                 .settles(1, 2, 2, 0, 0, 1, 1, 4).aside("6:A1").mayGo(6, "2");
+        land("two contested areas", 10, "0:A0 1:A1 2:A0 4:A2 5:A3 7:A2 8:A3")
+                .orders("0-1, 2 s 0-1, 4-3, 5-3, 7-6, 8-6").settles(1, 1, 4, 1, 0, 2, 2, 0, 2, 2, 0).mayGo(1, "9");
         displacedOne("three moves stopped one another", 7, "4:A2 5:A3", ", 1-3, 4-3, 5-3").mayGo(1, "6");
     }
 

@@ -6,7 +6,7 @@
  * "2 s 0-1" supports that move, "2 s 0" supports staying, "3 c 0-1" convoys, "2 h" holds.
  */
 final class Scene {
-    final SheetWar war = new SheetWar();
+    final SheetWar war;
     private final Check check;
     private final String title;
     private final int size;
@@ -14,9 +14,15 @@ final class Scene {
     Scene(Check check, String title, String areas, String borders, String units) {
         this.check = check;
         this.title = title;
-        String[] kinds = words(areas);
-        size = kinds.length;
-        for (String kind : kinds) {
+        size = words(areas).length;
+        war = setUp(areas, borders, units);
+        war.start();
+    }
+
+    /** Such a war before its start. */
+    static SheetWar setUp(String areas, String borders, String units) {
+        SheetWar war = new SheetWar();
+        for (String kind : words(areas)) {
             boolean home = kind.charAt(0) == 'H';
             war.area(kind.equals("S") ? 1 : 0, home || kind.equals("C"), home ? kind.charAt(1) - '0' : SheetWar.NONE);
         }
@@ -28,7 +34,7 @@ final class Scene {
             int code = codeOf(unit);
             war.unit(areaOf(unit), code / 2, code % 2);
         }
-        war.start();
+        return war;
     }
 
     /** All areas border one another. */

@@ -30,6 +30,9 @@ public final class SettlingTest {
         leftoversSettleOthers();
         attackersOfBothCarriers();
         ringsAndParadoxes();
+        theFirstArea();
+        severalUnitsOfOnePlayer();
+        nothingOfAnEarlierTurn();
         results();
         states();
         CHECK.end();
@@ -302,6 +305,9 @@ public final class SettlingTest {
                 .orders("0-1, 3-1").settles(1, 2, 0, 1, 1);
         new Scene(CHECK, "prevent, if they have one", "L L S L", "0-2 2-1 3-1", "0:A0 2:F0 3:A1")
                 .orders("0-1, 2 c 0-1, 3-1").settles(0, 2, 0, 1, 2);
+        new Scene(CHECK, "a support for one is given", "L L S L", "0-2 2-1 3-1", "0:A0 2:F0 3:A1")
+                .orders("0-1, 3 s 0-1").settles(0, 2, 0, 1, 1);
+        new Scene(CHECK, "no SEA at all", "L L L", "2-1", "0:A0").orders("0-1").settles(0, 2, 0, 0);
     }
 
     // An army at 0 goes over 1 to 3, where the attack from 2 on 1 is supported: if it arrives, the support is cut,
@@ -364,6 +370,44 @@ public final class SettlingTest {
                 "0:A2 1:A3 2:F2 3:F3 4:A0 5:F0 6:F1 7:F1")
                 .orders("0-1, 1-0, 2 c 0-1, 3 c 1-0, 4-7, 5 c 4-7, 6-5, 7 s 6-5")
                 .settles(2, 1, 1, 1, 1, 2, 1, 2, 3);
+    }
+
+    /** What the unit at area 0 does counts as much as what others do. */
+    private static void theFirstArea() {
+        land("it supports a MOVE", 4, "0:A0 1:A0 3:A1").orders("0 s 1-2, 1-2, 3-2").settles(1, 1, 1, 0, 2);
+        land("it supports staying", 4, "0:A1 1:A0 2:A1 3:A0").orders("0 s 2, 1-2, 3 s 1-2").settles(0, 1, 2, 1, 1);
+        land("it supports one head-on", 4, "0:A1 1:A0 2:A1 3:A0").orders("0 s 2-1, 1-2, 2-1, 3 s 1-2")
+                .settles(0, 1, 2, 2, 1);
+        land("it supports one that prevents", 5, "0:A0 1:A0 3:A1 4:A1").orders("0 s 1-2, 1-2, 3-2, 4 s 3-2")
+                .settles(0, 1, 2, 0, 2, 1);
+        land("it fails beside a ring", 6, "0:A0 1:A1 2:A2 3:A3 5:A1").orders("0-4, 5-4, 1-2, 2-3, 3-1")
+                .settles(3, 2, 1, 1, 1, 0, 2).stands("0:A0 1:A3 2:A1 3:A2 5:A1");
+        new Scene(CHECK, "it carries nobody", "S L L", "0-1 0-2", "0:F0 1:A0").orders("1-2").settles(0, 1, 2, 0);
+    }
+
+    private static void severalUnitsOfOnePlayer() {
+        // All of them are the player's own, whichever of them stands at the greatest area.
+        land("the first one doesn't cut", 4, "0:A0 1:A1 2:A0 3:A0").orders("0-2, 2 s 3-1, 3-1").settles(1, 2, 4, 1, 1);
+        land("no support against one's own", 6, "0:A1 1:A1 4:A1 5:A0").orders("5-4, 0 s 5-4, 1 s 5-4")
+                .settles(0, 1, 1, 0, 0, 1, 2);
+    }
+
+    private static void nothingOfAnEarlierTurn() {
+        String strait = "0-2 2-1 0-3";
+        new Scene(CHECK, "by sea, then on foot", "L L S L", strait, "0:A0 2:F0").orders("0-1")
+                .settles(0, 2, 0, 1, 0).orders("0-3").settles(1, 1, 0, 1, 0);
+        new Scene(CHECK, "carried, then not", "L L S L", strait, "0:A0 1:A1 2:F0").orders("0-1, 2 c 0-1")
+                .settles(0, 2, 1, 1, 0).orders("0-1, 1-3").settles(0, 2, 2, 1, 0);
+        land("head-on, then one behind the other", 3, "0:A0 1:A1").orders("0-1, 1-0").settles(0, 2, 2, 0)
+                .orders("0-1, 1-2").settles(2, 1, 1, 0);
+        land("given, then void", 3, "0:A0 1:A1").orders("0 s 1").settles(0, 1, 1, 0).orders("0 s 1-2")
+                .settles(0, 3, 1, 0);
+        land("moved, then stopped", 3, "0:A0 1:A1 2:A2").orders("0-1, 1-2, 2-0").settles(3, 1, 1, 1)
+                .orders("0-1").settles(0, 2, 1, 1);
+        // In turn 2 the unit at 1 is player 1's, and cuts what player 0 supports.
+        Scene taken = land("another player's area", 5, "0:A1 1:A0 2:A0 3:A2 4:A0").orders("0-1, 1-3, 3-0");
+        taken.settles(3, 1, 1, 1, 1, 1).stands("0:A2 1:A1 2:A0 3:A0 4:A0");
+        taken.orders("1-2, 2 s 3-0, 3-0").settles(0, 1, 2, 3, 2, 1);
     }
 
     private static void results() {
