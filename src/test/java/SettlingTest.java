@@ -393,11 +393,10 @@ public final class SettlingTest {
     }
 
     private static void nothingOfAnEarlierTurn() {
-        String strait = "0-2 2-1 0-3";
-        new Scene(CHECK, "by sea, then on foot", "L L S L", strait, "0:A0 2:F0").orders("0-1")
+        new Scene(CHECK, "by sea, then on foot", "L L S L", "0-2 2-1 0-3", "0:A0 2:F0").orders("0-1")
                 .settles(0, 2, 0, 1, 0).orders("0-3").settles(1, 1, 0, 1, 0);
-        new Scene(CHECK, "carried, then not", "L L S L", strait, "0:A0 1:A1 2:F0").orders("0-1, 2 c 0-1")
-                .settles(0, 2, 1, 1, 0).orders("0-1, 1-3").settles(0, 2, 2, 1, 0);
+        new Scene(CHECK, "carried, then not", "L L S L", "0-2 2-1 1-3", "0:A0 2:F0 3:A1")
+                .orders("0-1, 2 c 0-1, 3-1").settles(0, 2, 0, 1, 2).orders("0-1").settles(0, 2, 0, 1, 1);
         land("head-on, then one behind the other", 3, "0:A0 1:A1").orders("0-1, 1-0").settles(0, 2, 2, 0)
                 .orders("0-1, 1-2").settles(2, 1, 1, 0);
         land("given, then void", 3, "0:A0 1:A1").orders("0 s 1").settles(0, 1, 1, 0).orders("0 s 1-2")
