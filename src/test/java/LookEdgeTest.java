@@ -155,7 +155,8 @@ public final class LookEdgeTest {
         land("in ORDERS", 3, "0:A0 1:A1").aside("").orders("0-1").settles(0, 2, 1, 0).aside("");
         // In RETREATS it is that one alone; then nobody, saved or not, or taken back.
         displaced("in RETREATS").aside("1:A1").finish(1).aside("");
-        displaced("saved").retreat(1, 3, 0).aside("1:A1").finish(1).aside("").settles(0, 0, 1, 1, 1).isIn(3, 2).aside("");
+        displaced("saved").retreat(1, 3, 0).aside("1:A1").finish(1).aside("").settles(0, 0, 1, 1, 1).isIn(3, 2)
+                .aside("");
         displaced("taken back").undo(true).aside("");
     }
 

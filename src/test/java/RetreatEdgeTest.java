@@ -102,7 +102,7 @@ public final class RetreatEdgeTest {
     }
 
     private static void fleetNotToLand() {
-        // At LAND it may go to 3, which is SEA, but not to 4, which isn't; at SEA it may go to LAND and SEA that border.
+        // At LAND it may go to 3, which is SEA, but not to 4, which isn't.
         Twins coast = new Twins(CHECK, "a fleet at LAND", 6, () -> displaced(new Scene(CHECK, "coast",
                 "L L L S L S", "0-1 1-2 0-2 1-3 1-4 3-5", "0:A0 1:F1 2:A0").orders("0-1, 2 s 0-1")));
         coast.answers("to LAND", 2, war -> war.retreat(1, 1, 4));

@@ -63,7 +63,7 @@ public final class UndoEdgeTest {
         return war;
     }
 
-    // Player 0 drives the army of player 1 from 1 to 3, from there to 1, and from 0 to nowhere; and builds behind turn 4.
+    // Player 0 drives the army of player 1 from 1 to 3, back to 1, and from 0 to nowhere; and builds behind turn 4.
     private static final String[] ORDERS = {
         "0-1, 2 s 0-1", "1-0", "0-4", "2 h", "0-3, 4 s 0-3", "1-0", "3-0, 4 s 3-0", "0-1", "1-0",
     };
