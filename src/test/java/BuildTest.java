@@ -4,6 +4,16 @@ public final class BuildTest {
     private static final Check CHECK = new Check("BuildTest");
 
     public static void main(String[] args) {
+        Scene.inAllWays(BuildTest::centersAndBuilds);
+        surplusGoes();
+        surplusOfSeveral();
+        arguments();
+        states();
+        counts();
+        CHECK.end();
+    }
+
+    private static void centersAndBuilds() {
         centersChange();
         oddTurns();
         nothingToBuild();
@@ -11,12 +21,6 @@ public final class BuildTest {
         builds();
         whereToBuild();
         removals();
-        surplusGoes();
-        surplusOfSeveral();
-        arguments();
-        states();
-        counts();
-        CHECK.end();
     }
 
     /** Turns 1 and 2 pass without any order. */

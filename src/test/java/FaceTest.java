@@ -37,6 +37,8 @@ public final class FaceTest {
         int type = SheetWar.class.getModifiers();
         check.due("public", Modifier.isPublic(type), true);
         check.due("final", Modifier.isFinal(type), true);
+        check.due("extends nothing", SheetWar.class.getSuperclass() == Object.class, true);
+        check.due("implements nothing", SheetWar.class.getInterfaces().length, 0);
         check.due("NONE", SheetWar.NONE, -1);
         methods(check);
         fields(check);
@@ -44,6 +46,12 @@ public final class FaceTest {
         check.due("constructors", makers.length, 1);
         check.due("constructor is public", Modifier.isPublic(makers[0].getModifiers()), true);
         check.due("constructor's arguments", makers[0].getParameterCount(), 0);
+        check.due("constructor's exceptions", makers[0].getExceptionTypes().length, 0);
+        for (Class<?> inside : SheetWar.class.getDeclaredClasses()) {
+            int own = inside.getModifiers();
+            check.due(inside + " is static", Modifier.isStatic(own), true);
+            check.due(inside + " is hidden", Modifier.isPublic(own) || Modifier.isProtected(own), false);
+        }
         check.end();
     }
 
@@ -84,6 +92,9 @@ public final class FaceTest {
             boolean isConstant = field.getName().equals("NONE");
             check.due(field.getName() + " is public", Modifier.isPublic(field.getModifiers()), isConstant);
             check.due(field.getName() + " is private", Modifier.isPrivate(field.getModifiers()), !isConstant);
+            if (isConstant) {
+                check.due("NONE is an int", field.getType() == int.class, true);
+            }
             if (Modifier.isStatic(field.getModifiers())) {
                 check.due(field.getName() + " is final", Modifier.isFinal(field.getModifiers()), true);
             }

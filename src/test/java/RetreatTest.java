@@ -4,20 +4,29 @@ public final class RetreatTest {
     private static final Check CHECK = new Check("RetreatTest");
 
     public static void main(String[] args) {
+        Scene.inAllWays(RetreatTest::whereToGo);
+        Scene.inAllWays(RetreatTest::whoGoes);
+        arguments();
+        states();
+        CHECK.end();
+    }
+
+    private static void whereToGo() {
         armiesMayGo();
         fleetsMayGo();
         contestedAreas();
+        contestedByTheBeaten();
         notContestedAreas();
+        strandedArmy();
+        attackedBySea();
+    }
+
+    private static void whoGoes() {
         retreats();
         noRetreat();
         sameRetreat();
         answers();
-        arguments();
-        states();
-        strandedArmy();
-        attackedBySea();
         finish();
-        CHECK.end();
     }
 
     private static Scene land(String title, int size, String units) {
@@ -61,6 +70,15 @@ public final class RetreatTest {
         land("two contested areas", 10, "0:A0 1:A1 2:A0 4:A2 5:A3 7:A2 8:A3")
                 .orders("0-1, 2 s 0-1, 4-3, 5-3, 7-6, 8-6").settles(1, 1, 4, 1, 0, 2, 2, 0, 2, 2, 0).mayGo(1, "9");
         displacedOne("three moves stopped one another", 7, "4:A2 5:A3", ", 1-3, 4-3, 5-3").mayGo(1, "6");
+    }
+
+    private static void contestedByTheBeaten() {
+        // 1 is beaten head-on by 0: its MOVE to 0 had a path and failed, and 0 is empty. So 4 may not go there either.
+        land("head-on", 7, "0:A0 1:A1 2:A0 3:A0 4:A2 5:A0").orders("0-1, 1-0, 2 s 0-1, 3-4, 5 s 3-4")
+                .settles(2, 1, 4, 1, 1, 4, 1, 0).aside("1:A1 4:A2").mayGo(1, "3 6").mayGo(4, "6");
+        // Without its MOVE nothing is contested.
+        land("not head-on", 7, "0:A0 1:A1 2:A0 3:A0 4:A2 5:A0").orders("0-1, 2 s 0-1, 3-4, 5 s 3-4")
+                .settles(2, 1, 4, 1, 1, 4, 1, 0).mayGo(1, "3 6").mayGo(4, "0 6");
     }
 
     private static void notContestedAreas() {

@@ -1,40 +1,102 @@
+import java.util.Random;
+
 /**
  * A war written down in short texts.
  *
  * <p>Areas: "L S C H2" is land, sea, a center of nobody's and a home center of player 2, numbered from 0 on. Borders:
  * "0-1 1-2". Units: "0:A1 3:F0" is an army of player 1 at 0 and a fleet of player 0 at 3. Orders: "0-1" moves,
  * "2 s 0-1" supports that move, "2 s 0" supports staying, "3 c 0-1" convoys, "2 h" holds.
+ *
+ * <p>Little in the document hangs on which number an area has. So most scenes are played in several ways: as they are
+ * written, and with their areas dealt out among twelve, where the others are LAND that borders nothing.
  */
 final class Scene {
+    static final int WAYS = 40;
+
+    private static final int MOST_AREAS = 12;
+    private static final int AS_WRITTEN = 0;
+
+    private static int way = AS_WRITTEN;
+
     final SheetWar war;
     private final Check check;
     private final String title;
     private final int size;
+    private final int[] numbers;
 
     Scene(Check check, String title, String areas, String borders, String units) {
         this.check = check;
-        this.title = title;
+        this.title = way == AS_WRITTEN ? title : title + " (dealt out, way " + way + ")";
         size = words(areas).length;
-        war = setUp(areas, borders, units);
+        numbers = way == AS_WRITTEN ? inOrder(size) : dealtOut(way);
+        war = setUp(numbers, areas, borders, units);
         war.start();
+    }
+
+    /** Plays the scenes in all ways. What hangs on the numbers of areas must not be among them. */
+    static void inAllWays(Runnable scenes) {
+        for (way = WAYS - 1; way > AS_WRITTEN; way--) {
+            scenes.run();
+        }
+        scenes.run();
+    }
+
+    private static int[] inOrder(int size) {
+        int[] numbers = new int[size];
+        for (int i = 0; i < size; i++) {
+            numbers[i] = i;
+        }
+        return numbers;
+    }
+
+    private static int[] dealtOut(int seed) {
+        int[] numbers = inOrder(MOST_AREAS);
+        Random random = new Random(seed);
+        for (int i = MOST_AREAS - 1; i > 0; i--) {
+            int j = random.nextInt(i + 1);
+            int number = numbers[i];
+            numbers[i] = numbers[j];
+            numbers[j] = number;
+        }
+        return numbers;
     }
 
     /** Such a war before its start. */
     static SheetWar setUp(String areas, String borders, String units) {
+        return setUp(inOrder(words(areas).length), areas, borders, units);
+    }
+
+    private static SheetWar setUp(int[] numbers, String areas, String borders, String units) {
         SheetWar war = new SheetWar();
-        for (String kind : words(areas)) {
+        for (String kind : dealt(words(areas), numbers)) {
             boolean home = kind.charAt(0) == 'H';
             war.area(kind.equals("S") ? 1 : 0, home || kind.equals("C"), home ? kind.charAt(1) - '0' : SheetWar.NONE);
         }
         for (String pair : words(borders)) {
             String[] ends = pair.split("-");
-            war.border(Integer.parseInt(ends[0]), Integer.parseInt(ends[1]));
+            war.border(numbers[Integer.parseInt(ends[0])], numbers[Integer.parseInt(ends[1])]);
         }
         for (String unit : words(units)) {
             int code = codeOf(unit);
-            war.unit(areaOf(unit), code / 2, code % 2);
+            war.unit(numbers[areaOf(unit)], code / 2, code % 2);
         }
         return war;
+    }
+
+    private static String[] dealt(String[] kinds, int[] numbers) {
+        String[] all = new String[numbers.length];
+        for (int i = 0; i < numbers.length; i++) {
+            all[numbers[i]] = i < kinds.length ? kinds[i] : "L";
+        }
+        return all;
+    }
+
+    /** The number that an area of the scene has in the war; no area's, if the scene has none such. */
+    private int number(int area) {
+        if (area < 0) {
+            return area;
+        }
+        return area < size ? numbers[area] : numbers.length - size + area;
     }
 
     /** All areas border one another. */
@@ -90,7 +152,7 @@ final class Scene {
     }
 
     private int give(int area, int kind, int x, int y) {
-        return war.order(war.at(area) / 2, area, kind, x, y);
+        return war.order(war.at(number(area)) / 2, number(area), kind, number(x), number(y));
     }
 
     /** How many moves succeed, and the result of each area. */
@@ -102,21 +164,21 @@ final class Scene {
     Scene tells(int... results) {
         check.due(about("areas told of"), results.length, size);
         for (int a = 0; a < size; a++) {
-            check.due(about("result(" + a + ")"), war.result(a), results[a]);
+            check.due(about("result(" + a + ")"), war.result(number(a)), results[a]);
         }
         return this;
     }
 
     Scene stands(String units) {
         for (int a = 0; a < size; a++) {
-            check.due(about("at(" + a + ")"), war.at(a), codeAt(units, a));
+            check.due(about("at(" + a + ")"), war.at(number(a)), codeAt(units, a));
         }
         return this;
     }
 
     Scene aside(String units) {
         for (int a = 0; a < size; a++) {
-            check.due(about("displaced(" + a + ")"), war.displaced(a), codeAt(units, a));
+            check.due(about("displaced(" + a + ")"), war.displaced(number(a)), codeAt(units, a));
         }
         return this;
     }
@@ -137,29 +199,31 @@ final class Scene {
             for (String place : words(places)) {
                 due |= Integer.parseInt(place) == to;
             }
-            check.due(about("mayGo(" + area + ", " + to + ")"), war.mayGo(area, to), due);
+            check.due(about("mayGo(" + area + ", " + to + ")"), war.mayGo(number(area), number(to)), due);
         }
         return this;
     }
 
     Scene owners(int... owners) {
         for (int a = 0; a < size; a++) {
-            check.due(about("owner(" + a + ")"), war.owner(a), owners[a]);
+            check.due(about("owner(" + a + ")"), war.owner(number(a)), owners[a]);
         }
         return this;
     }
 
     Scene retreat(int area, int to, int answer) {
-        return retreat(war.displaced(area) / 2, area, to, answer);
+        return retreat(war.displaced(number(area)) / 2, area, to, answer);
     }
 
     Scene retreat(int player, int area, int to, int answer) {
-        check.due(about("retreat(" + player + ", " + area + ", " + to + ")"), war.retreat(player, area, to), answer);
+        check.due(about("retreat(" + player + ", " + area + ", " + to + ")"),
+                war.retreat(player, number(area), number(to)), answer);
         return this;
     }
 
     Scene build(int player, int area, int kind, int answer) {
-        check.due(about("build(" + player + ", " + area + ", " + kind + ")"), war.build(player, area, kind), answer);
+        check.due(about("build(" + player + ", " + area + ", " + kind + ")"),
+                war.build(player, number(area), kind), answer);
         return this;
     }
 
@@ -186,9 +250,9 @@ final class Scene {
     }
 
     Scene told(int area, int kind, int x, int y) {
-        check.due(about("told(" + area + ", 0)"), war.told(area, 0), kind);
-        check.due(about("told(" + area + ", 1)"), war.told(area, 1), x);
-        check.due(about("told(" + area + ", 2)"), war.told(area, 2), y);
+        check.due(about("told(" + area + ", 0)"), war.told(number(area), 0), kind);
+        check.due(about("told(" + area + ", 1)"), war.told(number(area), 1), kind == 0 ? x : number(x));
+        check.due(about("told(" + area + ", 2)"), war.told(number(area), 2), kind <= 1 ? y : number(y));
         return this;
     }
 }

@@ -3,6 +3,17 @@ public final class SettlingTest {
     private static final Check CHECK = new Check("SettlingTest");
 
     public static void main(String[] args) {
+        Scene.inAllWays(SettlingTest::movesAndSupports);
+        Scene.inAllWays(SettlingTest::convoysAndLeftovers);
+        Scene.inAllWays(SettlingTest::nothingOfAnEarlierTurn);
+        leftoversSettleOthers();
+        ringsAndParadoxes();
+        results();
+        states();
+        CHECK.end();
+    }
+
+    private static void movesAndSupports() {
         moves();
         supportedMoves();
         supportsForStaying();
@@ -18,6 +29,11 @@ public final class SettlingTest {
         followers();
         preventing();
         rings();
+        theFirstArea();
+        severalUnitsOfOnePlayer();
+    }
+
+    private static void convoysAndLeftovers() {
         fleets();
         convoys();
         brokenConvoys();
@@ -27,15 +43,7 @@ public final class SettlingTest {
         paradox();
         paradoxOfAnOpenMove();
         seaMovesFailBeforeTheLeast();
-        leftoversSettleOthers();
         attackersOfBothCarriers();
-        ringsAndParadoxes();
-        theFirstArea();
-        severalUnitsOfOnePlayer();
-        nothingOfAnEarlierTurn();
-        results();
-        states();
-        CHECK.end();
     }
 
     /** LAND alone, all areas bordering one another. */
@@ -60,6 +68,8 @@ public final class SettlingTest {
                 .settles(0, 2, 0, 2, 1, 1);
         land("two supports against one", 6, "0:A0 2:A1 3:A0 4:A1 5:A2")
                 .orders("0-1, 3 s 0-1, 5 s 0-1, 2-1, 4 s 2-1").settles(1, 1, 0, 2, 1, 1, 1);
+        land("the other one's support is cut", 7, "0:A0 2:A1 3:A0 4:A1 5:A2").orders("0-1, 3 s 0-1, 2-1, 4 s 2-1, 5-4")
+                .settles(1, 1, 0, 2, 1, 3, 2, 0).stands("1:A0 2:A1 3:A0 4:A1 5:A2");
         land("a HOLD is displaced", 4, "0:A0 1:A1 2:A0").orders("0-1, 2 s 0-1")
                 .settles(1, 1, 4, 1, 0).stands("1:A0 2:A0").aside("1:A1").isIn(2, 1);
         land("support of another player", 4, "0:A0 1:A1 2:A2").orders("0-1, 2 s 0-1")
@@ -174,6 +184,10 @@ public final class SettlingTest {
                 .stands("1:A0 2:A0").aside("1:A1");
         land("both are supported", 4, "0:A0 1:A1 2:A0 3:A1").orders("0-1, 1-0, 2 s 0-1, 3 s 1-0")
                 .settles(0, 2, 2, 1, 1);
+        land("the other one's support is cut", 5, "0:A0 1:A1 2:A0 3:A1 4:A0").orders("0-1, 1-0, 2 s 0-1, 3 s 1-0, 4-3")
+                .settles(1, 1, 4, 1, 3, 2).stands("1:A0 2:A0 3:A1 4:A0").aside("1:A1");
+        land("one's own support is cut", 5, "0:A0 1:A1 2:A0 3:A1").orders("0-1, 1-0, 2 s 0-1, 3-2")
+                .settles(0, 2, 2, 3, 2, 0);
         land("against the force, not the hold", 6, "0:A0 1:A1 2:A0 3:A1 4:A1 5:A0")
                 .orders("0-1, 1-0, 2 s 0-1, 5 s 0-1, 3 s 1-0").settles(1, 1, 4, 1, 1, 1, 1);
     }
@@ -195,10 +209,20 @@ public final class SettlingTest {
                 .stands("1:A0 2:A1 3:A2");
         land("by falling areas, too", 4, "3:A0 2:A1 1:A2").orders("3-2, 2-1, 1-0").settles(3, 0, 1, 1, 1);
         land("all stop behind the first", 5, "0:A0 1:A1 2:A2 3:A3").orders("0-1, 1-2, 2-3").settles(0, 2, 2, 2, 1, 0);
+        String eleven = "0:A0 1:A1 2:A2 3:A3 4:A0 5:A1 6:A2 7:A3 8:A0 9:A1 10:A2";
+        String behindOneAnother = "0-1, 1-2, 2-3, 3-4, 4-5, 5-6, 6-7, 7-8, 8-9, 9-10, 10-11";
+        land("eleven", 12, eleven).orders(behindOneAnother).settles(11, 1, 1, 1, 1, 1, 1, 1, 1, 1, 1, 1, 0)
+                .stands("1:A0 2:A1 3:A2 4:A3 5:A0 6:A1 7:A2 8:A3 9:A0 10:A1 11:A2");
+        land("eleven stop", 12, eleven + " 11:A3").orders(behindOneAnother)
+                .settles(0, 2, 2, 2, 2, 2, 2, 2, 2, 2, 2, 2, 1).stands(eleven + " 11:A3");
         land("one that fails to leave holds with 1", 5, "0:A0 1:A1 2:A2 3:A0").orders("0-1, 1-2, 3 s 0-1")
                 .settles(1, 1, 4, 1, 1, 0).aside("1:A1");
         land("no support holds one that fails to leave", 6, "0:A0 1:A1 2:A2 3:A0 4:A1 5:A1")
                 .orders("0-1, 1-2, 3 s 0-1, 4 s 1, 5 s 1").settles(1, 1, 4, 1, 1, 3, 3);
+        land("behind one's own, with a support", 5, "0:A0 1:A0 3:A1 4:A2").orders("0-2, 1-0, 3-0, 4 s 1-0")
+                .settles(2, 1, 1, 0, 2, 1).stands("0:A0 2:A0 3:A1 4:A2");
+        land("behind one's own that fails, with a support", 4, "0:A0 1:A0 2:A0 3:A1").orders("0 s 1-2, 1-2, 2-3")
+                .settles(0, 1, 2, 2, 1);
         land("two after one that leaves", 4, "0:A0 1:A1 2:A2").orders("0-1, 2-1, 1-3").settles(1, 2, 1, 2, 0);
     }
 

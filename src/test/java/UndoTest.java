@@ -5,15 +5,19 @@ public final class UndoTest {
 
     public static void main(String[] args) {
         nothingToTakeBack();
+        Scene.inAllWays(UndoTest::whatComesBack);
+        eightAtMost();
+        lessThanEight();
+        CHECK.end();
+    }
+
+    private static void whatComesBack() {
         fromOrders();
         fromRetreats();
         fromBuilds();
         centersComeBack();
         resultsComeBack();
         anotherWayOn();
-        eightAtMost();
-        lessThanEight();
-        CHECK.end();
     }
 
     private static Scene land(String title, int size, String units) {
